@@ -720,7 +720,7 @@ public final class TalkingReels {
         int lines;
         private final int[] stack = new int[MOST_STACK];
 
-        void clear() {
+        void empty() {
             size = 0;
             lines = 0;
         }
@@ -801,7 +801,7 @@ public final class TalkingReels {
         boolean parse() {
             boolean fine = true;
             tape.scan();
-            draft.clear();
+            draft.empty();
             at = 0;
             for (int i = 0; i <= MOST_LINES && fine && sign() != END; i++) {
                 fine = line();
