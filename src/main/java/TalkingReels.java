@@ -422,10 +422,7 @@ public final class TalkingReels {
             if (track[pictureOf[print]] != DISC) {
                 return NONE;
             }
-            if (isOff(print, 0, known)) {
-                return 0;
-            }
-            // The LEAD is the same from one EVENT's FRAME to the next one's, so no other FRAME can be the first.
+            // The LEAD changes at FRAMES of EVENTS alone, so no other FRAME can be the first.
             int first = NONE;
             for (int i = 0; i < events; i++) {
                 boolean sooner = first == NONE || frameOf[i] < first;
@@ -598,9 +595,9 @@ public final class TalkingReels {
 
         private final int[] text = new int[MOST];
         int size;
-        final int[] kind = new int[MOST + 1];
-        final int[] value = new int[MOST + 1];
-        final int[] place = new int[MOST + 1];
+        final int[] kind = new int[MOST];
+        final int[] value = new int[MOST];
+        final int[] place = new int[MOST];
         int tokens;
 
         int append(int a, int b, int c, int d, int e) {
@@ -632,7 +629,7 @@ public final class TalkingReels {
             return true;
         }
 
-        /** Finds the TOKENS; the last one is always the END. */
+        /** Finds the TOKENS. */
         void scan() {
             tokens = 0;
             for (int i = 0; i < size; i++) {
@@ -642,9 +639,6 @@ public final class TalkingReels {
                     addToken(i);
                 }
             }
-            kind[tokens] = END;
-            place[tokens] = size;
-            tokens++;
         }
 
         private static boolean isLetter(int sign) {
@@ -1083,8 +1077,9 @@ public final class TalkingReels {
         private final boolean[] isOff = new boolean[MOST_HALLS];
         private final int[] fee = new int[MOST_HALLS];
         private final int[] keep = new int[MOST_HALLS];
-        private final int[] goer = new int[MOST_CROWDS * MOST_HALLS];
-        private final int[] goal = new int[MOST_CROWDS * MOST_HALLS];
+        // Each going fills a HALL or is the last one of its CROWD.
+        private final int[] goer = new int[MOST_CROWDS + MOST_HALLS];
+        private final int[] goal = new int[MOST_CROWDS + MOST_HALLS];
         private int goings;
 
         Crowds(Reels reels, Houses houses, Firms firms) {
@@ -1168,7 +1163,6 @@ public final class TalkingReels {
 
         private void send(int crowd) {
             int rest = many[crowd];
-            // Each going fills a HALL or is the last one, so there are no more of them than HALLS.
             for (int i = 0; i < houses.halls && rest > 0; i++) {
                 int hall = bestHall(crowd);
                 if (hall == NONE) {

@@ -8,6 +8,7 @@ public final class CrowdsTest {
         weeks();
         choice();
         places();
+        lastPlaceAndLastLooker();
         money();
         keepOfAPrintThatDoesNotRun();
         words();
@@ -149,6 +150,30 @@ public final class CrowdsTest {
             Check.due("took " + i, x.of(i, 2), new long[] {350, 1260, 1680, 0}[i]);
         }
         Check.due("all lookers", x.look(7), 420);
+    }
+
+    private static void lastPlaceAndLastLooker() {
+        TalkingReels x = new TalkingReels();
+        x.picture(0, 1, 2, 0, 100);
+        house(x, 0, 10, 1, 0);
+        house(x, 0, 10, 2, 0);
+        x.crowd(0, 1, 2, 69, 9);
+        x.crowd(0, 1, 2, 2, 9);
+        x.crowd(0, 1, 2, 70, 9);
+        x.weeks(1);
+        Check.due("the last place is taken", x.of(0, 1), 70);
+        Check.due("one and sixty-nine go on", x.of(1, 1), 70);
+        TalkingReels y = new TalkingReels();
+        y.picture(0, 1, 2, 0, 100);
+        house(y, 0, 10, 1, 0);
+        house(y, 0, 10, 2, 0);
+        y.crowd(0, 1, 2, 71, 9);
+        y.crowd(0, 1, 2, 1, 9);
+        y.crowd(0, 1, 2, 0, 9);
+        y.crowd(0, 1, 0, 0, 9);
+        y.weeks(1);
+        Check.due("the last looker goes on, one comes alone", y.of(1, 1), 2);
+        Check.due("three goings: who has nobody says nothing", y.heard(0, 0), 3);
     }
 
     private static void money() {

@@ -109,6 +109,10 @@ public final class MoneyTest {
     }
 
     private static void shares() {
+        TalkingReels one = new TalkingReels();
+        one.purse(16, 1);
+        one.owe(16, 17, 1);
+        Check.due("a debt of one", one.clear(0, 17, 1), 1);
         TalkingReels x = new TalkingReels();
         x.purse(16, 10);
         x.owe(16, 17, 1);

@@ -146,6 +146,13 @@ public final class RulesTest {
         TalkingReels x = new TalkingReels();
         Check.due("no blanks are needed", Check.rules(x, 0, "fee1when1=1and(2>1)or not3<2;keep1+2*3/4-5;bar1=1;"), 3);
         Check.due("fee5", Check.rules(x, 0, "fee\n5\n;"), 1);
+        fault(";".repeat(600), 1, 0);
+        fault("((((((((((".repeat(60), 1, 0);
+        String long600 = "bar 1<1" + "or 1<1".repeat(98) + "    ;";
+        Check.due("a text of 600", Check.rules(x, 0, long600), 1);
+        String sum600 = "fee 1" + "+1".repeat(297) + ";";
+        Check.due("a sum of 600", Check.rules(x, 0, sum600), 1);
+        fault("fee 1" + "+1".repeat(297) + "+", 1, 600);
         Check.due("all words", Check.rules(x, 0,
             "fee maker+track+tongue+frames+wear+firm+seats+band+price+week+0+0000+9999;"), 1);
     }
