@@ -11,6 +11,7 @@ public final class RulesTest {
         firms();
         values();
         logic();
+        deepLogic();
         feeAndKeep();
         barred();
         runs();
@@ -301,6 +302,18 @@ public final class RulesTest {
         Check.due("not not not yes", so(x, "not not not " + yes), false);
         Check.due("not (not yes)", so(x, "not (not " + yes + ")"), true);
         Check.due("no and no or yes and yes or no", so(x, no + " and " + no + " or " + yes + " and " + yes + " or " + no), true);
+    }
+
+    /** As much waits on the way into the eighth ( as can. */
+    private static void deepLogic() {
+        TalkingReels x = scene();
+        String ahead = "1 > 2 or 1 < 2 and (";
+        Check.due("deep, and so", so(x, ahead.repeat(8) + "1 = 2 or 1 = 1 and 2 - 1 < 2 + 3 * 4" + ")".repeat(8)), true);
+        Check.due("deep, and not so", so(x, ahead.repeat(8) + "1 = 2 or 1 = 1 and 2 + 3 * 4 < 2 - 1" + ")".repeat(8)), false);
+        String nots = "not (1 < 2 and (";
+        Check.due("not, of what is so", so(x, nots.repeat(2) + "not (1 < 2 and 1 = 1" + ")".repeat(5)), false);
+        Check.due("not, of what is not so", so(x, nots.repeat(2) + "not (1 < 2 and 1 = 2" + ")".repeat(5)), true);
+        fault("bar " + nots.repeat(2) + "not (1 < 2 and not 1 = 2" + ")".repeat(5) + ";", 3, 51);
     }
 
     private static void feeAndKeep() {
