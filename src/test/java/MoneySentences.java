@@ -18,6 +18,7 @@ final class MoneySentences {
         poolOfAFirm();
         poolNone();
         lookWhat();
+        lookOfAFullObject();
         lookNone();
     }
 
@@ -590,6 +591,42 @@ final class MoneySentences {
         x.asks(0, 1, 0);
         due("players now", x.look(8), 39 + 38 + 37);
         due("lookers of gone PRINTS count", x.of(0, 5) + x.of(1, 5), 13 * 30);
+    }
+
+    private static void lookOfAFullObject() {
+        Doc.promise(36, "1 PICTURES, 2 PRINTS, 3 EVENTS, 4 HALLS, 5 SETS, 6 CROWDS, 7 all lookers,");
+        TalkingReels x = fresh();
+        for (int i = 0; i < 150; i++) {
+            if (i < 12) {
+                x.picture(0, 5, 0, 3, 100);
+            }
+            if (i < 30) {
+                x.print(i % 12);
+            }
+            if (i < 16) {
+                x.hall(i % 4, 10, 1, 40);
+                x.book(i, i);
+                x.crowd(i % 4, 0, 0, 5, 9);
+            }
+            if (i < 20) {
+                x.set(0, 7, 0);
+            }
+            x.event(0, 1, 0, 1);
+        }
+        for (int firm = 0; firm < 3; firm++) {
+            Check.rules(x, firm, "fee 1;".repeat(20));
+        }
+        x.weeks(12);
+        long[] due = {12, 12, 30, 150, 16, 20, 16, 12 * 16 * 5, 16 * 40, 16, 60};
+        for (int what = 0; what < due.length; what++) {
+            due("look(" + what + ")", x.look(what), due[what]);
+        }
+        due("the last CROWD heard it", x.heard(15, 0), 3);
+        x.book(15, -1);
+        due("another PRINT for the last HALL", x.book(29, 15), true);
+        x.weeks(1);
+        due("one CROWD of its TOWN after the other", x.look(7), 12 * 16 * 5 + 4 * 5);
+        due("the last HALL", x.of(15, 1), 20);
     }
 
     private static void lookNone() {
